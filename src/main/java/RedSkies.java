@@ -959,7 +959,7 @@ public final class RedSkies {
         }
 
         void takeFrom(Show other) {
-            for (int i = 0; i < MOST_PICTURES; i++) {
+            for (int i = 0; i < other.pictures; i++) {
                 System.arraycopy(other.facts[i], 0, facts[i], 0, FACTS);
                 System.arraycopy(other.seen[i], 0, seen[i], 0, CELLS);
             }
@@ -987,7 +987,7 @@ public final class RedSkies {
             row[SPAN] = isOfKind(kind, STUDY) ? 0 : span;
             row[LAMP] = lamp;
             row[PIGMENT] = pigment;
-            // After restore() a row may still hold the COLOURS of a PICTURE that is gone.
+            // The row may still hold the COLOURS of a PICTURE that restore() has taken away.
             Arrays.fill(seen[pictures], 0);
             pictures++;
             return pictures - 1;

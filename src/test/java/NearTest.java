@@ -8,6 +8,8 @@ public final class NearTest {
         sixteen();
         paid();
         paidByMeasures();
+        paidByTheLeast();
+        paidAgain();
         hangs();
         next();
         looks();
@@ -87,6 +89,16 @@ public final class NearTest {
         x.colour(6, 0, 0, 9);
         Due.due("stat(0, 0) of two HANDS", x.stat(0, 0), 4);
         dueOdds(x, 0, 0, 2, 15);
+        for (int hand = 0; hand <= 4; hand++) {
+            x = new RedSkies();
+            Due.measure(x, "r0/g0");
+            x.mountain(100);
+            for (int i = 0; i < 4; i++) {
+                Due.red(x, hand, i == 0 ? 100 : 90, 9 - i);
+            }
+            Due.due("stat(0, 0) of HAND " + hand, x.stat(0, 0), 3);
+            dueOdds(x, 0, 0, 1, 4);
+        }
     }
 
     private static void alikeAndCopies() {
@@ -161,17 +173,61 @@ public final class NearTest {
         for (int i = 0; i < 16; i++) {
             Due.red(x, 3, i < 7 ? 50 : i < 8 ? 51 : 90, 99 - i);
         }
-        duePaid(x, 0, 1, 11440 / 2);
-        duePaid(x, 1, 4, 12870);
-        duePaid(x, 2, 6, 12870);
+        dueOdds(x, 1, 0, 1, 11440);
+        dueOdds(x, 1, 1, 1, 12870);
+        duePaid(x, 0, 1, 5720);
+        duePaid(x, 1, 2, 6435);
+        duePaid(x, 2, 1, 2145);
     }
 
-    private static void duePaid(RedSkies x, int w, int above, int below) {
-        int divisor = above;
-        while (above % divisor != 0 || below % divisor != 0) {
-            divisor--;
+    /** The least is neither the first one nor the one with the least number above or below. */
+    private static void paidByTheLeast() {
+        RedSkies x = new RedSkies();
+        Due.measure(x, "g0/b0");
+        x.mountain(100);
+        int[] years = {100, 103, 104, 200, 201, 202, 203};
+        for (int i = 0; i < years.length; i++) {
+            Due.red(x, 0, years[i], new int[] {3, 8, 7, 9, 1, 2, 4}[i]);
         }
-        duePaid(x, w, (long) (above / divisor), (long) (below / divisor));
+        dueOdds(x, 0, 0, 1, 1);
+        duePaid(x, 9, 1, 1);
+        Due.measure(x, "r0/b0");
+        dueOdds(x, 1, 0, 5, 7);
+        dueOdds(x, 1, 3, 3, 7);
+        dueOdds(x, 1, 4, 11, 35);
+        duePaid(x, 0, 1, 1);
+        x.paint(1, 3, 0);
+        Due.measure(x, "r0/b0");
+        Due.measure(x, "g0/b0");
+        duePaid(x, 0, 1, 1);
+    }
+
+    private static void paidAgain() {
+        RedSkies x = new RedSkies();
+        Due.measure(x, "r0/g0");
+        x.mountain(100);
+        for (int i = 0; i < 11; i++) {
+            Due.red(x, 0, i == 0 ? 100 : i == 1 ? 101 : 200, i == 1 ? 0 : 20 - i);
+        }
+        duePaid(x, 0, 1, 11);
+        duePaid(x, 1, 2, 11);
+        x.colour(2, 0, 0, 99);
+        x.colour(3, 0, 0, 98);
+        duePaid(x, 0, 3, 11);
+        duePaid(x, 2, 9, 11);
+        x.colour(1, 0, 0, 97);
+        // By 1: 97 and 20 of 99, 98, 97, 20 and less; 9 choices of 55 are as high.
+        Due.due("stat(0, 1)", x.stat(0, 1), 10);
+        duePaid(x, 1, 18, 55);
+        x.colour(0, 0, 0, 0);
+        x.colour(1, 0, 0, 0);
+        duePaid(x, 0, 1, 1);
+        for (int i = 0; i < 3; i++) {
+            Due.measure(x, "g0/b0");
+        }
+        x.colour(0, 0, 0, 99);
+        x.colour(2, 0, 0, 9);
+        duePaid(x, 0, 4, 11);
     }
 
     private static void hangs() {
@@ -190,10 +246,13 @@ public final class NearTest {
         x.colour(0, 0, 0, 5);
         x.colour(1, 0, 0, 9);
         Due.due("hangs(0, 2) turned round", x.hangs(0, 2), 1);
+        Due.measure(x, "g0/b0");
+        Due.due("hangs(1, 2) by another MEASURE", x.hangs(1, 2), 0);
+        Due.due("hangs(0, 2) as before", x.hangs(0, 2), 1);
         Due.due("hangs(0, -1)", x.hangs(0, -1), Due.OUTSIDE);
         Due.due("hangs(0, 10)", x.hangs(0, 10), Due.OUTSIDE);
-        Due.due("hangs(1, 10)", x.hangs(1, 10), Due.UNKNOWN);
-        Due.due("count(8)", x.count(8), 3);
+        Due.due("hangs(2, 10)", x.hangs(2, 10), Due.UNKNOWN);
+        Due.due("count(8)", x.count(8), 5);
     }
 
     private static void next() {
@@ -224,6 +283,18 @@ public final class NearTest {
         Due.red(x, 0, 1, 7);
         Due.red(x, 0, 100, 7);
         Due.due("next(0, 0) of the NEAR one", x.next(0, 0), 3);
+        // All are 0 but one, so that "less than all others" is less than 0.
+        x = new RedSkies();
+        Due.measure(x, "r0/g0");
+        x.mountain(100);
+        int[] years = {1, 100, 100, 1, 1};
+        for (int i = 0; i < 5; i++) {
+            Due.red(x, 0, years[i], i == 0 ? 9 : 0);
+        }
+        Due.due("next(0, 0) with VALUES of 0", x.next(0, 0), 1);
+        Due.measure(x, "b0/g0");
+        x.colour(4, 0, 2, 5);
+        Due.due("next(1, 0) by another MEASURE", x.next(1, 0), 1);
     }
 
     private static void looks() {

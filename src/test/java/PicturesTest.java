@@ -247,10 +247,19 @@ public final class PicturesTest {
         Due.due("a COPY", x.near(2, 0), Due.NONE);
         Due.due("a WINDOW of the YEAR itself", x.near(3, 0), 1);
         Due.due("a STUDY ahead of it", x.near(4, 9), 0);
+        x.picture(0, 0, 0, 0, -1, -1);
+        Due.due("YEAR 0, in which none went off", x.near(5, 9), 0);
+        x.mountain(0);
+        Due.due("YEAR 0, in which one did", x.near(5, 0), 1);
+        for (int i = 0; i < 3; i++) {
+            x.mountain(104);
+        }
+        Due.due("the sixth MOUNTAIN", x.near(0, 0), 1);
+        Due.due("none of six", x.near(4, 9), 0);
         Due.due("w -1", x.near(0, -1), Due.OUTSIDE);
         Due.due("w 10", x.near(0, 10), Due.OUTSIDE);
         Due.due("w 10 of a COPY", x.near(2, 10), Due.OUTSIDE);
-        Due.due("picture 5", x.near(5, 0), Due.UNKNOWN);
+        Due.due("picture 6", x.near(6, 0), Due.UNKNOWN);
         Due.due("picture -1", x.near(-1, 0), Due.UNKNOWN);
     }
 
@@ -262,6 +271,7 @@ public final class PicturesTest {
         Due.due("many 9", x.paint(0, 9, 0), Due.OUTSIDE);
         Due.due("seed -1", x.paint(0, 1, -1), Due.OUTSIDE);
         Due.due("count(2) behind refusals", x.count(2), 0);
+        Due.due("seed 0", new RedSkies().paint(0, 1, 0), 1);
         Due.due("paint(4, 8, 7)", x.paint(4, 8, 7), 8);
         Due.due("paint(0, 7, greatest)", x.paint(0, 7, Integer.MAX_VALUE), 15);
         Due.due("paint(0, 2, 1) beyond 16", x.paint(0, 2, 1), 16);
@@ -274,9 +284,10 @@ public final class PicturesTest {
         Due.due("PIGMENT", x.about(0, 5), Due.NONE);
     }
 
-    /** The draws written out again; a MOUNTAIN of the first one's YEAR makes it redder. */
+    /** The draws written out again; a MOUNTAIN 0 to 3 YEARS ahead of the first one makes it redder. */
     private static void paintByHand() {
-        for (int hot = 0; hot < 2; hot++) {
+        for (int ahead = -1; ahead <= 4; ahead++) {
+            int hot = ahead >= 0 && ahead <= 3 ? 1 : 0;
             RedSkies x = new RedSkies();
             long[] draws = new long[30];
             long seed = 2147483647L;
@@ -284,15 +295,13 @@ public final class PicturesTest {
                 seed = (1103515245L * seed + 12345L) % (1L << 31);
                 draws[i] = seed / 65536L;
             }
-            if (hot == 1) {
-                x.mountain((int) (draws[0] % 401));
-            }
+            x.mountain((int) (draws[0] % 401) - ahead);
             Due.due("paint()", x.paint(3, 2, 2147483647), 2);
             int at = 0;
             for (int number = 0; number < 2; number++) {
                 Due.due("YEAR " + number, x.about(number, 2), draws[at++] % 401);
                 Due.due("SPAN " + number, x.about(number, 3), draws[at++] % 4);
-                int glow = x.near(number, 3) == 1 ? 15 : 0;
+                int glow = number == 0 ? 15 * hot : 0;
                 for (int part = 0; part < 4; part++) {
                     Due.due("red", x.about(number, 10 + 3 * part), 20 + draws[at++] % 40 + glow);
                     Due.due("green", x.about(number, 11 + 3 * part), 20 + draws[at++] % 40);
@@ -300,6 +309,7 @@ public final class PicturesTest {
                 }
             }
             Due.due("near(0, 3)", x.near(0, 3), hot);
+            Due.due("near(1, 3)", x.near(1, 3), 0);
             int red = x.about(0, 10);
             x.mountain(x.about(0, 2));
             Due.due("a MOUNTAIN after that changes nothing", x.about(0, 10), red);

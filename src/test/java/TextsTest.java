@@ -260,7 +260,8 @@ public final class TextsTest {
         Due.due("law()", Due.law(x, "100,200,300,400,999;0"), 5);
         Due.due("count(7) behind law()", x.count(7), 0);
         Due.due("classes of 300", x.classes(0, 0, 0), 3);
-        Due.due("another law()", Due.law(x, "301;1"), 1);
+        Due.due("another law()", Due.law(x, "302;7"), 1);
+        Due.due("and another", Due.law(x, "301;1"), 1);
         Due.due("count(5)", x.count(5), 1);
         Due.due("classes of 300 less 1", x.classes(0, 0, 0), 0);
         Due.due("classes of 300 and 1", x.classes(0, 0, 1), 1);

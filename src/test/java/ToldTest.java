@@ -18,12 +18,15 @@ public final class ToldTest {
         x.paint(0, 2, 5);
         Due.due("image()", x.image(), 2);
         x.colour(1, 3, 2, 77);
+        x.colour(0, 0, 0, 78);
         x.paint(0, 2, 5);
         Due.due("the latest image()", x.image(), 4);
         x.colour(1, 3, 2, 11);
+        x.colour(0, 0, 0, 12);
         x.paint(0, 8, 5);
         Due.due("restore()", x.restore(), 4);
         Due.due("a COLOUR of then", x.about(1, 21), 77);
+        Due.due("and of the first PICTURE", x.about(0, 10), 78);
         x.colour(1, 3, 2, 12);
         Due.due("restore() again", x.restore(), 4);
         Due.due("a COLOUR of then again", x.about(1, 21), 77);
@@ -65,12 +68,24 @@ public final class ToldTest {
             Due.due("count(" + what + ") behind restore()", x.count(what), counts[what]);
         }
         x.ice(20, 2, 2);
+        x.ice(0, 3, 4);
+        x.ice(400, 3, 4);
+        x.image();
+        x.ice(0, 1, 1);
+        x.ice(400, -1, 0);
         x.restore();
+        x.ice(20, 1, 3);
+        Due.due("the first YEAR of ICE", x.ice(0, 3, 4) + x.ice(400, 3, 4), 6);
         Due.law(x, "1,2,3,4,5;0");
         x.blank();
         Due.law(x, "1,2,3,4,5;0");
         Due.due("back(0, 20, 0)", x.back(0, 20, 0), 1);
         Due.due("back(0, 20, 1)", x.back(0, 20, 1), 3);
+        x.restore();
+        for (int year = 0; year <= 400; year += 400) {
+            Due.due("back(0, " + year + ", 0)", x.back(0, year, 0), 3);
+            Due.due("back(0, " + year + ", 1)", x.back(0, year, 1), 4);
+        }
     }
 
     private static void count() {
@@ -136,6 +151,20 @@ public final class ToldTest {
                 11, 393, 0, 1, 1, 0, 200, 1, 4, 300, 2, 3, 394, 0, 0, 0, 1, 1, 1, 2, 2, 3, 0, 0);
         Due.due("digest() with a LAW", x.digest(), with);
         Due.due("digest() again", x.digest(), with);
+        x = new RedSkies();
+        Due.measure(x, "r0/g0");
+        Due.law(x, "5;0");
+        x.mountain(0);
+        x.mountain(2);
+        x.picture(1, 0, 3, 0, -1, -1);
+        x.picture(1, 0, 5, 0, -1, -1);
+        x.ice(5, 1, 1);
+        x.ice(400, 0, 3);
+        x.ice(0, 4, 5);
+        long edges = digestOf(1, 0, 3, 0, -1, -1, 0, 0, 0, 0, 0, 0, 0, 0, 0, 0, 0, 0, 1, 0,
+                1, 0, 5, 0, -1, -1, 0, 0, 0, 0, 0, 0, 0, 0, 0, 0, 0, 0, 0, 0,
+                0, 2, 0, 1, 1, 2, 0, 4, 5, 5, 1, 1, 400, 0, 3, 0, 0, 2, 1, 2, 1, 3, 0, 0);
+        Due.due("digest() of edges", x.digest(), edges);
     }
 
     /** Two HANDS, a COPY, two MEASURES: every number of the digest from the other calls. */
