@@ -12,6 +12,7 @@ public final class NearTest {
         paidAgain();
         hangs();
         next();
+        looksByTurns();
         looks();
         Due.finish();
     }
@@ -283,18 +284,42 @@ public final class NearTest {
         Due.red(x, 0, 1, 7);
         Due.red(x, 0, 100, 7);
         Due.due("next(0, 0) of the NEAR one", x.next(0, 0), 3);
-        // All are 0 but one, so that "less than all others" is less than 0.
+        // Less than 0 is less than all others, too.
         x = new RedSkies();
         Due.measure(x, "r0/g0");
         x.mountain(100);
-        int[] years = {1, 100, 100, 1, 1};
+        Due.red(x, 0, 50, 0);
+        Due.red(x, 0, 100, 0);
+        Due.due("next(0, 0) of two with VALUE 0", x.next(0, 0), 0);
+        x = new RedSkies();
+        Due.measure(x, "r0/g0");
+        x.mountain(100);
+        Due.red(x, 0, 100, 0);
+        Due.red(x, 0, 100, 0);
+        Due.red(x, 0, 50, 0);
+        Due.due("next(0, 0) of three with VALUE 0", x.next(0, 0), 2);
+    }
+
+    /** By red the first one, by green the second one is the greatest; looks take turns. */
+    private static void looksByTurns() {
+        RedSkies x = new RedSkies();
+        Due.measure(x, "r0/b0");
+        Due.measure(x, "g0/b0");
+        x.mountain(100);
         for (int i = 0; i < 5; i++) {
-            Due.red(x, 0, years[i], i == 0 ? 9 : 0);
+            Due.red(x, 0, i < 2 ? 100 : 50, new int[] {9, 1, 2, 3, 4}[i]);
+            x.colour(i, 0, 1, new int[] {1, 9, 2, 3, 4}[i]);
         }
-        Due.due("next(0, 0) with VALUES of 0", x.next(0, 0), 1);
-        Due.measure(x, "b0/g0");
-        x.colour(4, 0, 2, 5);
-        Due.due("next(1, 0) by another MEASURE", x.next(1, 0), 1);
+        for (int turn = 0; turn < 2; turn++) {
+            Due.due("hangs(0, 0)", x.hangs(0, 0), 0);
+            Due.due("hangs(1, 0)", x.hangs(1, 0), 1);
+            Due.due("next(0, 0)", x.next(0, 0), 1);
+            Due.due("next(1, 0)", x.next(1, 0), 0);
+        }
+        Due.due("stat(0, 0)", x.stat(0, 0), 0);
+        x.colour(1, 0, 1, 0);
+        Due.due("next(0, 0) behind stat()", x.next(0, 0), 1);
+        Due.due("stat(1, 0)", x.stat(1, 0), -6);
     }
 
     private static void looks() {
