@@ -179,17 +179,19 @@ public final class TextsTest {
         fault(2, "1;;", 2);
     }
 
-    private static void noLamp(String text) {
+    private static void readsNone(int sort, String text) {
         RedSkies x = new RedSkies();
         Due.put(x, text);
         long digest = x.digest();
-        Due.due("lamp() of " + text, x.lamp(), Due.STATE);
-        Due.unchanged("lamp() of " + text, x, digest);
+        int answer = sort == 0 ? x.lamp() : sort == 1 ? x.measure() : x.law();
+        String call = "reading sort " + sort + " of " + text;
+        Due.due(call, answer, Due.STATE);
+        Due.unchanged(call, x, digest);
     }
 
     private static void lamp() {
         for (String text : new String[] {"", "r", "r+", "r+1g", "r+1g-", "r+21", "r+1r+1", "r+01", "r0/g0"}) {
-            noLamp(text);
+            readsNone(0, text);
         }
         RedSkies x = new RedSkies();
         Due.due("lamp() first", Due.lamp(x, "b-20"), 0);
@@ -216,17 +218,9 @@ public final class TextsTest {
         Due.unchanged("lamp() fifth", x, digest);
     }
 
-    private static void noMeasure(String text) {
-        RedSkies x = new RedSkies();
-        Due.put(x, text);
-        long digest = x.digest();
-        Due.due("measure() of " + text, x.measure(), Due.STATE);
-        Due.unchanged("measure() of " + text, x, digest);
-    }
-
     private static void measure() {
         for (String text : new String[] {"", "r0", "r0/", "r0/g", "r0/g1+", "r10/g1", "r0/g1/b1", "r0+g1", "r+1"}) {
-            noMeasure(text);
+            readsNone(1, text);
         }
         RedSkies x = new RedSkies();
         Due.due("measure() first", Due.measure(x, "r0123+r0123+r0123+r0123/r0123+r0123+r012"), 0);
@@ -241,17 +235,9 @@ public final class TextsTest {
         Due.unchanged("measure() fifth", x, digest);
     }
 
-    private static void noLaw(String text) {
-        RedSkies x = new RedSkies();
-        Due.put(x, text);
-        long digest = x.digest();
-        Due.due("law() of " + text, x.law(), Due.STATE);
-        Due.unchanged("law() of " + text, x, digest);
-    }
-
     private static void law() {
         for (String text : new String[] {"", "1", "1;", "1,", "2,1;0", "1,1;0", "1000;0", "1;100", "0;1", "1,2,3,4,5,6;0"}) {
-            noLaw(text);
+            readsNone(2, text);
         }
         RedSkies x = new RedSkies();
         x.picture(0, 0, 100, 0, Due.NONE, Due.NONE);
