@@ -323,12 +323,10 @@ public final class RedSkies {
         if (law.size == 0) {
             return STATE;
         }
-        int low = 0;
-        int high = law.size;
-        if (show.lows[year] != NONE) {
-            low = Math.max(low, show.lows[year]);
-            high = Math.min(high, show.highs[year]);
-        }
+        // ICE may tell of CLASSES beyond those of THE LAW, which stand in only where nothing tells.
+        boolean isIceTold = show.lows[year] != NONE;
+        int low = isIceTold ? show.lows[year] : 0;
+        int high = isIceTold ? show.highs[year] : law.size;
         for (int picture = 0; picture < show.pictures; picture++) {
             if (show.isOfJust(picture, year)) {
                 int value = valueOf(measure, picture);

@@ -8,6 +8,7 @@ public final class DustTest {
         classes();
         classRefusals();
         back();
+        backFromIceBeyondTheLaw();
         backRefusals();
         dates();
         datesByPigmentAndIce();
@@ -125,12 +126,38 @@ public final class DustTest {
         dueBack(x, 100, Due.NONE, Due.NONE);
         x.ice(50, 1, 3);
         dueBack(x, 50, 1, 3);
-        x.ice(50, 2, 5);
-        dueBack(x, 50, 2, 4);
-        x.ice(50, 5, 5);
-        dueBack(x, 50, Due.NONE, Due.NONE);
         dueBack(x, 0, 0, 4);
         dueBack(x, 400, 0, 4);
+    }
+
+    /** ICE may tell of CLASSES that THE LAW does not have. */
+    private static void backFromIceBeyondTheLaw() {
+        RedSkies x = one("150;50", 1);
+        dueBack(x, 50, 0, 1);
+        x.ice(50, 0, 5);
+        dueBack(x, 50, 0, 5);
+        x.ice(50, 1, 2);
+        dueBack(x, 50, 1, 2);
+        x.ice(50, 2, 5);
+        dueBack(x, 50, 2, 5);
+        x.picture(3, 0, 50, 0, -1, -1);
+        x.picture(0, 0, 50, 1, -1, -1);
+        dueBack(x, 50, 2, 5);
+        x.ice(50, -1, 0);
+        dueBack(x, 50, 0, 1);
+        dueBack(x, 100, 0, 1);
+        x.ice(100, 0, 5);
+        dueBack(x, 100, 0, 1);
+        x.ice(100, 1, 5);
+        dueBack(x, 100, 1, 1);
+        x.ice(100, 2, 5);
+        dueBack(x, 100, Due.NONE, Due.NONE);
+        x.ice(400, 5, 5);
+        x.ice(0, 5, 5);
+        dueBack(x, 400, 5, 5);
+        dueBack(x, 0, 5, 5);
+        Due.law(x, "1,2,3;0");
+        dueBack(x, 400, 5, 5);
     }
 
     private static void backRefusals() {

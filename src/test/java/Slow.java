@@ -596,11 +596,16 @@ final class Slow {
         if (law == null) {
             return STATE;
         }
-        int bits = ((2 << bounds().length) - 1) & iceBits(year);
+        boolean told = ice.containsKey(year);
+        int bits = iceBits(year);
         for (Picture p : pictures) {
             if (p.kind != 3 && p.year == year && p.span == 0) {
+                told = true;
                 bits &= classBits(measure, p);
             }
+        }
+        if (!told) {
+            return end == 0 ? 0 : bounds().length;
         }
         return end == 0 ? lowest(bits) : highest(bits);
     }
