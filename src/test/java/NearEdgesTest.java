@@ -16,6 +16,7 @@ public final class NearEdgesTest {
         oddsInLowestTerms();
         paidWithoutPictures();
         paidByWindowsZeroToW();
+        paidByNoWindowBelowZero();
         paidByAllMeasures();
         paidOneAtMost();
         paidInLowestTerms();
@@ -216,6 +217,19 @@ public final class NearEdgesTest {
         RedSkies x = ofReds(1, 9, 2, 3, 4, 5);
         Due.red(x, 0, NEAR + 1, 1);
         duePaid("the least by the first WINDOW", x, 1, 1, 3);
+    }
+
+    /** Promise 19: "all windows 0 to w": a MEMORY 4 YEARS behind is NEAR by 0 already, along with one of the YEAR itself. */
+    private static void paidByNoWindowBelowZero() {
+        RedSkies x = withMountain();
+        x.colour(x.picture(4, 0, NEAR + 4, 0, NONE, NONE), 0, 0, 99);
+        Due.red(x, 0, NEAR, 1);
+        for (int i = 0; i < 14; i++) {
+            Due.red(x, 0, FAR, 50);
+        }
+        // Of 120 choices only the 14 of the least one and one of the others are below STAT, which is 0.
+        dueOdds("the greatest and the least", x, 0, 53, 60);
+        duePaid("the greatest and the least", x, 0, 53, 60);
     }
 
     /** Promise 19: "of all MEASURES" */
